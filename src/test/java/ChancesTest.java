@@ -94,6 +94,13 @@ public final class ChancesTest {
         CHECK.due("b 101", x.least(1, 101), -2);
         CHECK.due("b -1", x.least(1, -1), -2);
         CHECK.due("nobody", new UmbrellaDoors().least(8, 0), 0);
+        // three a HOUR are lost, at one DOOR in HOURS 0, 2, 4, 6
+        UmbrellaDoors losing = Check.in("rain 10 s<2;lost 1 s=1");
+        for (int k = 0; k < 3; k++) {
+            losing.person(0, 0, 1);
+        }
+        CHECK.due("nine are needed", losing.least(6, 0), 9);
+        CHECK.due("twelve would be", losing.least(7, 0), -5);
         CHECK.due("only in thought", Check.standing(x), 0);
         // what stood is not counted
         Check.stands(x, 9, 9, 9, 9);
@@ -154,6 +161,10 @@ public final class ChancesTest {
         x.stand(0, 0);
         CHECK.due("all the same: the least", x.rule(1, 6), 0);
         CHECK.due("v is as it was", x.of(1, 1), 4);
+        x = Check.in("rain 8 h=1");
+        x.person(1, 0, 1);
+        x.stand(0, 1);
+        CHECK.due("only v 9 doesn't carry", x.rule(0, 1), 9);
         x = Check.in("rain 10 s<2");
         x.person(3, 0, 1);
         Check.stands(x, 9, 9, 0, 0);

@@ -30,6 +30,7 @@ public final class PeopleHoursTest {
         CHECK.due("v 10", x.person(0, 10, 1), -2);
         CHECK.due("v -1", x.person(0, -1, 1), -2);
         CHECK.due("a is b", x.person(0, 0, 22), -2);
+        CHECK.due("a is b, 0", x.person(0, 0, 0), -2);
         CHECK.due("NONE ahead of BAD", x.person(0, 10, 4), -1);
         CHECK.due("nobody yet", x.count(0), 0);
         CHECK.due("0", x.person(6, 9, 32), 0);
@@ -47,6 +48,7 @@ public final class PeopleHoursTest {
         UmbrellaDoors x = new UmbrellaDoors();
         CHECK.due("nobody", x.step(0, 1), -1);
         x.person(0, 0, 12);
+        CHECK.due("step(0, 1)", x.step(0, 1), 1);
         CHECK.due("step(0, 9)", x.step(0, 9), 1);
         CHECK.due("step(0, 3)", x.step(0, 3), 9);
         CHECK.due("step(0, 10)", x.step(0, 10), -2);
