@@ -164,6 +164,15 @@ public final class PeopleHoursTest {
         Check.stands(x, 1, 0, 0, 0);
         CHECK.due("the second one is wet", x.go(1), 9);
         CHECK.due("stands", Check.standing(x), 100);
+        // more calls than are promised, but no fewer come to HOUR 999
+        x = new UmbrellaDoors();
+        for (int k = 0; k < 999; k++) {
+            CHECK.due("hour by hour", x.go(0), 0);
+        }
+        CHECK.due("HOUR 999", x.told(4), 999);
+        CHECK.due("STATE", x.go(0), -1003);
+        CHECK.due("BAD ahead of STATE", x.go(2), -1002);
+        CHECK.due("HOUR 999 stays", x.told(4), 999);
         // HARDY is wet by its will
         x = new UmbrellaDoors();
         x.person(3, 0, 1);
