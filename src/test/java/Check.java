@@ -60,4 +60,29 @@ final class Check {
         }
         return digits;
     }
+
+    /** All that can be asked of an object but THE TRACE, in some 170 calls; none of them changes anything. */
+    static String seen(UmbrellaDoors x) {
+        StringBuilder all = new StringBuilder();
+        for (int what = 0; what < 6; what++) {
+            all.append(x.count(what)).append(' ').append(x.told(what)).append(' ');
+        }
+        int people = x.count(0);
+        for (int person = 0; person < people; person++) {
+            for (int what = 0; what < 8; what++) {
+                all.append(x.of(person, what)).append(' ');
+            }
+        }
+        int skies = x.count(3);
+        for (int what = 0; what < 7; what++) {
+            for (int n = 0; n <= skies; n += Math.max(1, skies / 4)) {
+                all.append(x.hand(n, what)).append(' ');
+            }
+        }
+        for (int n = 1; n <= 8; n++) {
+            all.append(x.mean(n, 0, 0)).append('/').append(x.mean(n, 0, 1)).append(' ');
+            all.append(x.mean(n, 1, 0)).append('/').append(x.mean(n, 1, 1)).append(' ');
+        }
+        return all.append(x.vanish(0)).append(' ').append(x.vanish(1)).append(' ').append(x.needed()).toString();
+    }
 }
