@@ -488,6 +488,9 @@ public final class TownEdgesTest {
         fault(nine + ";rain 1 s=1;wet 1", 64);
         fault(nine + ";rain 1 s=1|;wet 1", 65);
         fault(nine + ";wet 10;#", 60);
+        fault(nine + ";wet 0wet 1", 59);
+        fault(nine + ";wet 0w", 59);
+        fault("wet 0wet 1", 5);
         fault(";wet 1", 0);
         fault("wet 1;", 6);
         fault("wet 1;;wet 1", 6);
@@ -497,5 +500,17 @@ public final class TownEdgesTest {
             rains.append(";rain 1 s=0");
         }
         CHECK.due("ten of rain, together", Check.in(rains.toString()).told(0), 10);
+        // ten of lost: the first, the last, or none of them holds
+        for (int at = 0; at <= 10; at++) {
+            StringBuilder losts = new StringBuilder();
+            for (int k = 0; k < 10; k++) {
+                losts.append(k == 0 ? "" : ";").append("lost 1 p=").append(k == at ? 0 : 9);
+            }
+            UmbrellaDoors x = Check.in(losts.toString());
+            x.person(4, 0, 1);
+            x.stand(0, 1);
+            x.go(0);
+            CHECK.due("lost by CLAUSE " + at, x.count(1), at < 10 ? 0 : 1);
+        }
     }
 }
