@@ -1,3 +1,7 @@
+import java.lang.reflect.Constructor;
+import java.lang.reflect.Field;
+import java.lang.reflect.Method;
+import java.lang.reflect.Modifier;
 import java.nio.file.Files;
 import java.nio.file.Path;
 import java.util.Set;
@@ -24,6 +28,7 @@ public final class LanguageTest {
         classes(code);
         methods(code);
         face(code);
+        members();
         CHECK.end();
     }
 
@@ -103,5 +108,69 @@ public final class LanguageTest {
         }
         CHECK.due("public ones missing", want.stream().filter(n -> !seen.contains(n)).count(), 0);
         CHECK.due("public ones too many", seen.stream().filter(n -> !want.contains(n)).count(), 0);
+    }
+
+    private static final String METHODS = "int stand int,int; int feed long,int; int town ; int told int;"
+        + " int person int,int,int; int step int,int; int of int,int; int go int; int row int; int hand int,int;"
+        + " long mean int,int,int; int least int,int; int start int,int; int rule int,int; int gather int;"
+        + " long penny int,int,int; int cart ; int needed ; int book int,int; int vanish int; int act int,int,int;"
+        + " int trace int; int as int,int; int image ; int undo ; int count int";
+    private static final String FIELDS = "int NONE; int BAD; int STATE; int FULL; long NO";
+
+    /** What is not private is of the document's face, and as it says. */
+    private static void members() {
+        CHECK.part("rule 1");
+        Set<String> want = new TreeSet<>();
+        for (String method : METHODS.split("; *")) {
+            want.add("public " + method.trim() + (method.trim().split(" ").length == 2 ? " " : ""));
+        }
+        for (String field : FIELDS.split("; *")) {
+            want.add("public static final " + field);
+        }
+        want.add("public UmbrellaDoors");
+        Set<String> seen = new TreeSet<>();
+        for (Method m : UmbrellaDoors.class.getDeclaredMethods()) {
+            if (!Modifier.isPrivate(m.getModifiers()) && !m.isSynthetic()) {
+                seen.add(Modifier.toString(m.getModifiers()) + " " + m.getReturnType() + " " + m.getName() + " "
+                    + parameters(m.getParameterTypes()));
+            }
+        }
+        for (Field f : UmbrellaDoors.class.getDeclaredFields()) {
+            if (!Modifier.isPrivate(f.getModifiers()) && !f.isSynthetic()) {
+                seen.add(Modifier.toString(f.getModifiers()) + " " + f.getType() + " " + f.getName());
+            }
+        }
+        for (Constructor<?> c : UmbrellaDoors.class.getDeclaredConstructors()) {
+            seen.add(Modifier.toString(c.getModifiers()) + " " + c.getName() + parameters(c.getParameterTypes()));
+        }
+        for (String member : want) {
+            CHECK.due("there is: " + member, seen.contains(member) ? 1 : 0, 1);
+        }
+        for (String member : seen) {
+            CHECK.due("told: " + member, want.contains(member) ? 1 : 0, 1);
+        }
+        CHECK.due("twenty fields or fewer", fieldsOf(UmbrellaDoors.class) <= 20 ? 1 : 0, 1);
+        CHECK.due("public and final", UmbrellaDoors.class.getModifiers(), Modifier.PUBLIC | Modifier.FINAL);
+        for (Class<?> inside : UmbrellaDoors.class.getDeclaredClasses()) {
+            CHECK.due("static: " + inside, Modifier.isStatic(inside.getModifiers()) ? 1 : 0, 1);
+            CHECK.due("private: " + inside, Modifier.isPrivate(inside.getModifiers()) ? 1 : 0, 1);
+            CHECK.due("twenty fields or fewer: " + inside, fieldsOf(inside) <= 20 ? 1 : 0, 1);
+        }
+    }
+
+    private static int fieldsOf(Class<?> one) {
+        int fields = 0;
+        for (Field f : one.getDeclaredFields()) {
+            fields += Modifier.isStatic(f.getModifiers()) ? 0 : 1;
+        }
+        return fields;
+    }
+
+    private static String parameters(Class<?>[] types) {
+        StringBuilder text = new StringBuilder();
+        for (Class<?> type : types) {
+            text.append(text.length() == 0 ? "" : ",").append(type.getName());
+        }
+        return text.toString();
     }
 }
